@@ -168,6 +168,9 @@ public final class PromiseTests {
         }
         due("unchanged", x.at(2, 1), Long.MIN_VALUE);
         due("code again 0", x.code(), 0);
+        x.tear(2);
+        due("torn", x.put(2, 1, 0, 1), 0);
+        due("code 1 ahead of 2", x.code(), 1);
     }
 
     private static void at() {
@@ -214,6 +217,15 @@ public final class PromiseTests {
         x.row(3, 0, 1, 0, 0, 0);
         due("other row is new", x.value(3, 3), 1);
         due("first rise is free", x.rise(4, 9), 1);
+        x.things(10);
+        x.worth(3);
+        for (int t = 0; t < 10; t++) x.row(0, t, 1, 1, 1, 1);
+        x.things(10);
+        x.worth(3);
+        for (int t = 0; t < 10; t++) {
+            x.row(0, t, 0, 0, 0, 0);
+            due("rows of 0", x.value(0, 1023), 0);
+        }
     }
 
     private static void tellAllOfThem(FallingGains x) {
@@ -231,13 +243,15 @@ public final class PromiseTests {
         due("kind", x.kind(0), 5);
         due("of nothing", x.count(5, 0), 0);
         due("value", x.value(0, 3), 0);
+        due("price", x.price(0, 0, 5), 0);
         due("price", x.price(0, 1, 5), 0);
         for (int w = 1; w < 12; w++) due("number", x.sum(), w);
         due("thirteenth", x.sum(), FULL);
         x.things(2);
         due("anew", x.sum(), 0);
         due("price 0", x.price(0, 1, 1), 0);
-        due("value", x.value(0, 2), 1);
+        due("price 0", x.price(0, 0, 4), 0);
+        due("value", x.value(0, 3), 5);
     }
 
     private static void part() {
@@ -385,10 +399,13 @@ public final class PromiseTests {
         x.sheet(1, 2, 5);
         x.put(1, 2, 1, 3);
         for (long v : new long[] {1000001, -1000001, Long.MIN_VALUE, Long.MAX_VALUE}) {
-            x.put(1, 2, 3, v);
-            spoilCode(x);
-            due("too far", x.read(0, 1), NOT);
-            due("code stays", x.code(), 1);
+            for (int i = 1; i < 4; i++) {
+                x.put(1, 2, i, v);
+                spoilCode(x);
+                due("too far", x.read(0, 1), NOT);
+                due("code stays", x.code(), 1);
+                x.put(1, 2, i, 3);
+            }
         }
         due("unchanged", x.value(0, 1), 1000000);
         x.put(1, 2, 3, -1000000);
@@ -404,6 +421,11 @@ public final class PromiseTests {
         x.worth(0);
         x.sheet(2, 0, 0);
         due("no set, no place asked for", x.read(0, 2), 1);
+        x.things(1);
+        x.worth(0);
+        x.sheet(2, 0, 1);
+        due("too short for one thing", x.read(0, 2), 0);
+        due("code", x.code(), 3);
         x.things(10);
         x.worth(0);
         x.sheet(2, 0, 1023);
@@ -442,6 +464,8 @@ public final class PromiseTests {
         due("code stays", x.code(), 1);
         due("to itself ahead of full", x.line(0, 1, 1, 1), NOT);
         due("unchanged", x.value(0, 2), 0);
+        due("lines are no spots", x.spot(0, 1, 1), 0);
+        due("code 5 ahead of full", x.code(), 5);
         x.part(0, 0);
         x.part(1, 0);
         due("held", x.line(0, 1, 0, 1), NOT);
@@ -471,6 +495,8 @@ public final class PromiseTests {
         due("full", x.spot(0, 1, 7), FULL);
         due("code stays", x.code(), 1);
         due("unchanged", x.value(0, 1), 10000);
+        due("spots are no lines", x.line(0, 1, 2, 1), 0);
+        due("code 5 ahead of full", x.code(), 5);
         x.part(0, 0);
         x.part(1, 0);
         due("held ahead of full", x.spot(0, 1, 7), NOT);
@@ -517,6 +543,7 @@ public final class PromiseTests {
         due("held", x.row(1, 0, 0, 0, 0, 0), NOT);
         due("unchanged", x.value(0, 63), 3);
         largeRows();
+        manyRows();
     }
 
     /** The largest numbers, whose products are the largest too. */
@@ -533,6 +560,31 @@ public final class PromiseTests {
         due("with one more", x.value(0, 15), 3);
     }
 
+    /** SETS of more THINGS than a row is long; each THING in turn is the one that can be left out. */
+    private static void manyRows() {
+        FallingGains x = withThings(10);
+        x.worth(3);
+        for (int out = 0; out < 5; out++) {
+            for (int t = 0; t < 5; t++) {
+                int place = t < out ? t : t - 1;
+                int on = t == out ? 0 : 1;
+                x.row(0, t, place == 0 ? on : 0, place == 1 ? on : 0, place == 2 ? on : 0, place == 3 ? on : 0);
+            }
+            due("four of five", x.value(0, 31), 4);
+            due("the rest", x.value(0, 31 - (1 << out)), 4);
+            due("all", x.value(0, 1023), 4);
+            due("rows of 0", x.value(0, 992), 0);
+        }
+        x.row(0, 9, 1, 2, 3, 4);
+        due("one", x.value(0, 992), 1);
+        x.row(0, 5, 4, 3, 2, 1);
+        due("two", x.value(0, 992), 2);
+        x.row(0, 7, 5, 5, 5, 5);
+        due("still two", x.value(0, 992), 2);
+        x.row(0, 7, 5, 5, 5, 6);
+        due("three", x.value(0, 992), 3);
+    }
+
     private static void rise() {
         FallingGains x = withThings(3);
         x.worth(4);
@@ -543,11 +595,20 @@ public final class PromiseTests {
         due("code", x.code(), 0);
         due("as the last one", x.value(0, 7), 30000);
         due("alike", x.rise(0, 10000), 2);
+        x.worth(4);
+        x.rise(2, -5);
+        due("above the first", x.rise(2, -4), NOT);
+        due("alike", x.rise(2, -5), 2);
+        due("0 is above too", x.rise(2, 0), NOT);
+        x.worth(2);
+        for (int i = 0; i < 10; i++) x.spot(3, 1, 1);
+        due("spots are no rises", x.rise(3, 0), 0);
+        due("code 5 ahead of full", x.code(), 5);
         due("rise", x.rise(0, -10000), 3);
         int[] want = {0, 10000, 10000, 20000, 10000, 20000, 20000, 10000};
         for (int set = 0; set < 8; set++) due("value", x.value(0, set), want[set]);
         spoilCode(x);
-        for (int w : new int[] {-1, 2, MIN, MAX}) due("no worth", x.rise(w, 10001), UNKNOWN);
+        for (int w : new int[] {-1, 4, MIN, MAX}) due("no worth", x.rise(w, 10001), UNKNOWN);
         for (int v : new int[] {-10001, 10001, MIN, MAX}) due("outside", x.rise(1, v), OUTSIDE);
         due("above the one ahead", x.rise(0, -9999), NOT);
         due("code stays", x.code(), 1);
@@ -590,7 +651,8 @@ public final class PromiseTests {
         due("not ahead, ahead of the code", x.add(2, 3, 1), NOT);
         due("code stays", x.code(), 1);
         x.worth(1);
-        due("another kind", x.add(4, 1, 1), 0);
+        for (int i = 0; i < 4; i++) x.line(4, 0, 1, 1);
+        due("another kind, ahead of full", x.add(4, 1, 1), 0);
         due("code", x.code(), 5);
         due("not held", x.count(6, 1), 0);
         due("fourth", x.add(3, 1, 1), 4);
@@ -622,6 +684,8 @@ public final class PromiseTests {
         due("code", x.code(), 0);
         due("far too large", x.add(4, 3, 100), LARGE);
         due("unchanged", x.value(4, 1), 1000000L * first);
+        for (int i = 2; i <= 4; i++) due("times 0", x.add(4, 3, 0), i);
+        due("full ahead of large", x.add(4, 3, 100), FULL);
     }
 
     private static void price() {
@@ -661,8 +725,13 @@ public final class PromiseTests {
         due("large", x.price(3, 0, sign), LARGE);
         due("code stays", x.code(), 1);
         due("away from it", x.price(3, 0, -100000 * sign), 0);
+        due("large again", x.price(3, 0, sign), LARGE);
+        due("unchanged", x.value(3, 1), 1000000L * first - 100000 * sign);
         due("and back", x.price(3, 0, 0), -100000 * sign);
         due("value", x.value(3, 1), 1000000L * first);
+        x.part(3, 1);
+        due("another kind, ahead of large", x.price(4, 0, sign), 0);
+        due("code", x.code(), 5);
     }
 
     private static void code() {
@@ -796,6 +865,28 @@ public final class PromiseTests {
         due("not closed", x.all(0, 3), 0);
         for (int what : new int[] {-1, 4, MIN, MAX}) due("outside", x.all(0, what), OUTSIDE);
         for (int w : new int[] {-1, 1, MIN, MAX}) due("no worth", x.all(w, 4), UNKNOWN);
+        chains();
+    }
+
+    private static void chains() {
+        FallingGains x = told(2, 0, 1, 0);
+        due("0, then with THING 0, then both", x.all(0, 3), 1);
+        x.tell(0, 1, 1);
+        x.tell(0, 2, 0);
+        due("0, then with THING 1, then both", x.all(0, 3), 1);
+        x.tell(0, 3, 1);
+        due("without 0", x.all(0, 2), 2);
+        due("closed", x.all(0, 3), 1);
+        x.tell(0, 1, 0);
+        due("not both", x.all(0, 3), 0);
+        x = told(3, -1, 0, -1, 0, -1, 0, -1);
+        x.tell(0, 1, -2);
+        x.tell(0, 7, -2);
+        due("far apart, but one in the other", x.all(0, 3), 1);
+        x.tell(0, 3, -2);
+        due("a chain", x.all(0, 3), 1);
+        x.tell(0, 6, -2);
+        due("what both have is missing", x.all(0, 3), 0);
     }
 
     private static void one() {
@@ -816,8 +907,27 @@ public final class PromiseTests {
         due("3", x.level(0, 3), 6);
         for (int k : new int[] {-1, 4, 10, MIN, MAX}) due("outside", x.level(0, k), OUTSIDE);
         for (int w : new int[] {-1, 1, MIN, MAX}) due("no worth", x.level(w, 4), UNKNOWN);
+        x = tenPrices();
+        for (int k = 0; k <= 10; k++) due("sum of the least prices", x.level(0, k), k * (k - 1) / 2);
+        due("outside", x.level(0, 11), OUTSIDE);
         due("no things", told(0).level(0, 0), 0);
         due("no things", told(0).level(0, 1), OUTSIDE);
+    }
+
+    /** WORTH 0 is TOLD, each SET as its COUNT says. */
+    private static FallingGains byCount(int... lows) {
+        FallingGains x = withThings(lows.length);
+        x.worth(0);
+        for (int set = 1; set < 1 << lows.length; set++) x.tell(0, set, lows[Integer.bitCount(set) - 1]);
+        return x;
+    }
+
+    /** WORTH 0 is a SUM of PRICES 9, 8, .. 0 alone, so that each THING more is a BEND. */
+    private static FallingGains tenPrices() {
+        FallingGains x = withThings(10);
+        x.sum();
+        for (int t = 0; t < 10; t++) x.price(0, t, 9 - t);
+        return x;
     }
 
     private static void bends() {
@@ -828,6 +938,8 @@ public final class PromiseTests {
         due("bent down", told(2, 3, 3, 5).bends(0), 1);
         due("three", told(3, -5, -5, -5, -5, -5, -5, 9).bends(0), 3);
         due("between others on the line", told(3, 1, 1, 2, 1, 2, 2, 9).bends(0), 2);
+        due("ten", tenPrices().bends(0), 10);
+        due("behind the first", byCount(-5, 0, 2, 3, 9).bends(0), 3);
         for (int w : new int[] {-1, 1, MIN, MAX}) due("no worth", told(1).bends(w), UNKNOWN);
     }
 
@@ -854,9 +966,29 @@ public final class PromiseTests {
         long[] flat = {0, 1, 0, 4};
         for (int what = 0; what < 4; what++) due("flat", x.bend(0, 0, what), flat[what]);
         for (int i : new int[] {-1, 1, MIN, MAX}) due("no bend", x.bend(0, i, 4), UNKNOWN);
+        dueBends(byCount(-5, 0, 2, 3, 9), new long[][] {{-5, 1, 0, 1}, {8, 3, 1, 4}, {6, 1, 4, 5}});
+        dueBends(byCount(-7, -8, 5, -3, 9), new long[][] {{-7, 1, 0, 1}, {-1, 1, 1, 2}, {5, 2, 2, 4}, {12, 1, 4, 5}});
+        dueBends(byCount(4, 2, 5, 8, 8), new long[][] {{1, 1, 0, 2}, {2, 1, 2, 5}});
+        dueBends(byCount(4, 2, 5, 6, 8), new long[][] {{1, 1, 0, 2}, {2, 1, 2, 5}});
+        dueBends(byCount(1, 4, 4, 5, 7), new long[][] {{1, 1, 0, 1}, {4, 3, 1, 4}, {2, 1, 4, 5}});
+        FallingGains ten = tenPrices();
+        for (int i = 0; i < 10; i++) {
+            due("price", ten.bend(0, i, 0), i);
+            due("bottom", ten.bend(0, i, 1), 1);
+            due("from", ten.bend(0, i, 2), i);
+            due("to", ten.bend(0, i, 3), i + 1);
+        }
+        due("no bend", ten.bend(0, 10, 0), UNKNOWN);
         for (int w : new int[] {-1, 1, MIN, MAX}) due("no worth", x.bend(w, 0, 4), UNKNOWN);
         for (int what : new int[] {-1, 4, MIN, MAX}) due("outside", x.bend(0, 0, what), OUTSIDE);
         due("no things", told(0).bend(0, 0, 0), UNKNOWN);
+    }
+
+    private static void dueBends(FallingGains x, long[][] want) {
+        due("bends", x.bends(0), want.length);
+        for (int i = 0; i < want.length; i++) {
+            for (int what = 0; what < 4; what++) due("bend(" + i + ", " + what + ")", x.bend(0, i, what), want[i][what]);
+        }
     }
 
     private static void order() {
@@ -870,6 +1002,10 @@ public final class PromiseTests {
         for (int i : new int[] {-1, 4, MIN, MAX}) due("no place", x.order(0, i), OUTSIDE);
         for (int i = 0; i < 4; i++) due("unchanged", x.order(want[i], i), i);
         due("no things", withThings(0).order(0, 0), UNKNOWN);
+        x = withThings(10);
+        due("to the end", x.order(0, 9), 0);
+        due("and back", x.order(0, 0), 9);
+        for (int t = 0; t < 10; t++) due("the order", x.order(t, t), t);
     }
 
     private static void corner() {
@@ -904,6 +1040,7 @@ public final class PromiseTests {
         dueShares(x, 16, 70, 0);
         due("g alone", x.mix(0, 0, 1000), 1000);
         dueShares(x, 1000, 10000, -3000);
+        due("one too much", x.mix(0, 1000, 1), LARGE);
         due("just within", x.mix(0, 1000, 0), 1000000);
         due("large", x.mix(0, 1, 1), LARGE);
         due("large", x.mix(0, 1000, 1000), LARGE);
@@ -912,6 +1049,7 @@ public final class PromiseTests {
         for (int f : new int[] {-1, 1001, MIN, MAX}) due("outside", x.mix(0, f, 1), OUTSIDE);
         for (int g : new int[] {-1, 1001, MIN, MAX}) due("outside", x.mix(0, 1, g), OUTSIDE);
         for (int w : new int[] {-1, 1, MIN, MAX}) due("no worth", x.mix(w, 0, 0), UNKNOWN);
+        for (int w : new int[] {-1, 1, MIN, MAX}) due("no worth", x.mix(w, -1, 1001), UNKNOWN);
         dueShares(x, 1000000, 10000000, -3000000);
         due("no things", told(0).mix(0, 1, 5), 6);
         largeShares(1);
@@ -1019,6 +1157,7 @@ public final class PromiseTests {
         due("more than there are", x.greed(0, 10), 3);
         x = told(2, 0, -1, 9);
         due("0 is not above 0", x.greed(0, 2), 0);
+        due("1 is", told(1, 1).greed(0, 1), 1);
         x = told(2, 1, 2, 9);
         due("all", x.greed(0, 10), 3);
         for (int k : new int[] {-1, 11, MIN, MAX}) due("outside", x.greed(0, k), OUTSIDE);
