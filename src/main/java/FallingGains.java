@@ -721,19 +721,23 @@ public final class FallingGains {
         int second;
 
         boolean findBreak(Worth worth) {
-            for (set = 0; set < worth.sets; set++) {
-                for (first = 0; first < worth.things; first++) {
-                    if (!hasThing(set, first) && findSecond(worth)) return true;
+            for (int s = 0; s < worth.sets; s++) {
+                for (int a = 0; a < worth.things; a++) {
+                    if (!hasThing(s, a) && findSecond(worth, s, a)) return true;
                 }
             }
             return false;
         }
 
-        private boolean findSecond(Worth worth) {
-            int withFirst = set | 1 << first;
-            for (second = first + 1; second < worth.things; second++) {
-                // A THING of the SET adds 0 to both, and so breaks nothing.
-                if (worth.gain(withFirst, second) > worth.gain(set, second)) return true;
+        private boolean findSecond(Worth worth, int s, int a) {
+            for (int b = a + 1; b < worth.things; b++) {
+                // A THING that is in S adds 0 with a and without it, and so breaks nothing.
+                if (worth.gain(s | 1 << a, b) > worth.gain(s, b)) {
+                    set = s;
+                    first = a;
+                    second = b;
+                    return true;
+                }
             }
             return false;
         }

@@ -222,7 +222,7 @@ public final class PromiseTests {
         for (int t = 0; t < 10; t++) x.row(0, t, 1, 1, 1, 1);
         x.things(10);
         x.worth(3);
-        for (int t = 0; t < 10; t++) {
+        for (int t = 9; t >= 0; t--) {
             x.row(0, t, 0, 0, 0, 0);
             due("rows of 0", x.value(0, 1023), 0);
         }
