@@ -61,14 +61,26 @@ final class Model implements Bench {
     private long valueOf(Made m, int set) {
         switch (m.kind) {
             case 0: return m.told[set];
-            case 1: return m.lines.stream().filter(l -> has(set, l[0]) && !has(set, l[1])).mapToLong(l -> l[2]).sum();
-            case 2: return m.spots.stream().filter(s -> covers(set, s[1])).mapToLong(s -> s[0]).sum();
+            case 1: return cutLines(m, set);
+            case 2: return coveredSpots(m, set);
             case 3: return rank(m, set);
             case 4: return firstRises(m, Integer.bitCount(set));
             case 5: return summed(m, set);
             case 6: return val(m.of, set & m.set);
             default: return val(m.of, set | m.set) - val(m.of, m.set);
         }
+    }
+
+    private static long cutLines(Made m, int set) {
+        long sum = 0;
+        for (int[] line : m.lines) if (has(set, line[0]) && !has(set, line[1])) sum += line[2];
+        return sum;
+    }
+
+    private long coveredSpots(Made m, int set) {
+        long sum = 0;
+        for (int[] spot : m.spots) if (covers(set, spot[1])) sum += spot[0];
+        return sum;
     }
 
     private boolean covers(int set, int spot) {
