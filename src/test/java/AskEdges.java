@@ -292,6 +292,45 @@ public final class AskEdges extends Check {
         for (int v : numbers(UNKNOWN, OUTSIDE, NONE)) asks(told(1, v), x -> x.bend(0, 0, 0), v);
     }
 
+    /** What one WORTH answers does not hang on what was asked of another one just before. */
+    private static void oneAfterAnother() {
+        says(0, "A WORTH (12 at most) tells each SET a number, its VALUE");
+        Scenes.Scene three = x -> {
+            x.things(3);
+            for (int w = 0; w < 3; w++) x.worth(0);
+            x.tell(0, 1, -1);
+            x.tell(0, 6, -1);
+            x.tell(1, 7, -2);
+            x.tell(2, 4, 1);
+            x.tell(2, 5, 1);
+        };
+        Call[] questions = new Call[3 * 24];
+        for (int w = 0; w < 3; w++) {
+            CallOn[] of = {
+                (x, v) -> x.falls(v), (x, v) -> x.why(v, 0), (x, v) -> x.why(v, 1), (x, v) -> x.why(v, 2), (x, v) -> x.least(v),
+                (x, v) -> x.all(v, 0), (x, v) -> x.all(v, 1), (x, v) -> x.all(v, 2), (x, v) -> x.all(v, 3),
+                (x, v) -> x.one(v, 0), (x, v) -> x.one(v, 1), (x, v) -> x.level(v, 1), (x, v) -> x.level(v, 2),
+                (x, v) -> x.level(v, 3), (x, v) -> x.bends(v), (x, v) -> x.bend(v, 0, 0), (x, v) -> x.bend(v, 0, 1),
+                (x, v) -> x.bend(v, 0, 3), (x, v) -> x.bend(v, 1, 0), (x, v) -> x.bend(v, 1, 1), (x, v) -> x.bend(v, 1, 3),
+                (x, v) -> x.in(v), (x, v) -> x.proves(v), (x, v) -> x.greed(v, 3),
+            };
+            int worth = w;
+            for (int i = 0; i < of.length; i++) {
+                CallOn question = of[i];
+                questions[3 * i + w] = x -> question.on(x, worth);
+            }
+        }
+        Model model = new Model();
+        three.on(model);
+        for (Call first : questions) {
+            Real x = Scenes.real(three);
+            for (Call second : questions) {
+                first.on(x);
+                due(x, second.on(x), second.on(model));
+            }
+        }
+    }
+
     public static void main(String[] args) {
         value();
         adds();
@@ -303,6 +342,7 @@ public final class AskEdges extends Check {
         level();
         bends();
         bend();
+        oneAfterAnother();
         end(22, 31);
     }
 }

@@ -379,6 +379,12 @@ public final class ChangeEdges extends Check {
                 due(x, x.count(5, 5), 1);
             }
         }
+        Real ten = taken(then(told(10), x -> {
+            x.tell(0, 1023, 1000000);
+            x.sum();
+        }), y -> y.add(1, 0, 100), 1);
+        due(ten, ten.value(1, 1023), 100 * MILLION);
+        due(ten, ten.value(1, 1022), 0);
         says(19, "UNKNOWN (w, p), OUTSIDE (factor), NOT (HELD; p is not ahead of w), FULL (4), LARGE.");
         for (int none : NO_WORTH) {
             for (int factor : numbers(1, -1, 101)) {
@@ -463,6 +469,9 @@ public final class ChangeEdges extends Check {
                 due(x, x.price(5, t, 1), v);
             }
         }
+        Real ten = taken(priced(0, 1, 2, 3, 4, 5, 6, 7, 8, 9), y -> y.price(0, 9, 100000), 9);
+        due(ten, ten.value(0, 1023), 100036);
+        due(ten, ten.value(0, 511), 36);
         says(20, "UNKNOWN, OUTSIDE, NOT (HELD), LARGE.");
         for (int w : NO_WORTH) {
             refused(Scenes::free, x -> x.price(w, 0, 5), UNKNOWN);

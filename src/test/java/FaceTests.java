@@ -61,6 +61,9 @@ public final class FaceTests {
     private static void namesInside() {
         Set<String> taken = new HashSet<>();
         for (String method : METHODS) taken.add(method.substring(method.indexOf(' ') + 1, method.indexOf('(')));
+        for (Method method : FallingGains.class.getDeclaredMethods()) {
+            if (Modifier.isPrivate(method.getModifiers()) && taken.contains(method.getName())) fault("bears a public name: " + method);
+        }
         for (Class<?> inside : FallingGains.class.getDeclaredClasses()) {
             if (!Modifier.isStatic(inside.getModifiers())) fault("not static: " + inside);
             for (Method method : inside.getDeclaredMethods()) {

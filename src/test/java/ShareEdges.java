@@ -92,6 +92,17 @@ public final class ShareEdges extends Check {
         dueShares(done(two, x -> x.mix(1, 1000, 0), 3000), 3000, 7000, -4000);
         dueShares(done(two, x -> x.mix(1, 1000, 1000), 4000), 4000, 17000, -24000);
         dueShares(done(told(0), x -> x.mix(0, 1000, 1000), 2000), 2000);
+        dueShares(done(priced(0, 1, 2, 3, 4, 5, 6, 7, 8, 9), x -> x.mix(0, 0, 2), 2), 2, 0, 2, 4, 6, 8, 10, 12, 14, 16, 18);
+        // Of THINGS that there are no more, the shares are no more either.
+        Scenes.Scene many = x -> {
+            x.things(3);
+            x.worth(0);
+            x.share(2, TRILLION);
+            x.mix(0, 1000, 0);
+            x.things(2);
+            x.sum();
+        };
+        dueShares(done(many, x -> x.mix(0, 1000, 1000), 2000), 2000, 0, 0);
         says(34, "UNKNOWN, OUTSIDE, LARGE: THE BOTTOM would be above 1000000, or a share above 10^15 in size.");
         for (int bad : numbers(-1, 1001, MIN, MAX)) {
             for (int good : numbers(0, 1, 1000, -1)) {

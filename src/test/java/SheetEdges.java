@@ -4,6 +4,7 @@ public final class SheetEdges extends Check {
 
     /** SHEETS 0, 1, 2 are of the FORM of their number, with two places, 3 is nothing, but was ints. */
     private static void forms(Bench x) {
+        Scenes.free(x);
         for (int form = 0; form < 3; form++) {
             x.sheet(form, form, 2);
             x.put(form, form, 0, 11);
@@ -48,7 +49,9 @@ public final class SheetEdges extends Check {
         says(2, "OUTSIDE.");
         for (int n : numbers(-1, 11, MIN, MAX)) {
             refused(NEW, x -> x.things(n), OUTSIDE);
+            refused(Scenes::free, x -> x.things(n), OUTSIDE);
             refused(Scenes::held, x -> x.things(n), OUTSIDE);
+            refused(x -> x.things(10), x -> x.things(n), OUTSIDE);
         }
         says(2, "no WORTHS, THE ORDER, THE SHARES as at first");
         for (int n : numbers(0, 1, 3, 10)) {

@@ -24,7 +24,7 @@ public final class TermEdges extends Check {
             due(x, call.on(x), call.on(model));
             due(x, x.calls(), 512);
         }
-        Real x = Scenes.real(told(10));
+        Real x = Scenes.real(made(10, 0, y -> { }));
         for (int set = 1; set <= 509; set++) x.tell(0, set, 1000000 - set);
         due(x, x.value(0, 509), 999491);
         due(x, x.calls(), 512);
@@ -206,7 +206,7 @@ public final class TermEdges extends Check {
             int number = s;
             coded(x -> { }, x -> x.at(number, 0), 1);
             coded(x -> { }, x -> x.put(number, 0, 0, 1), 1);
-            coded(told(1), x -> x.read(0, number), 1);
+            coded(made(1, 0, x -> { }), x -> x.read(0, number), 1);
             done(x -> { }, x -> x.tear(number), 0);
             for (int form = 0; form < 3; form++) {
                 int told = form;

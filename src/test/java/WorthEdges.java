@@ -32,6 +32,7 @@ public final class WorthEdges extends Check {
             dueNothingTold(done(WorthEdges::eleven, x -> x.worth(kind), 11), 11, k, 2);
             for (int old = 0; old < 12; old++) dueNothingOfTheOld(k, old);
         }
+        dueNoOldRows();
         says(7, "OUTSIDE, FULL.");
         for (int kind : numbers(-1, 5, 6, 7, 8, MIN, MAX)) {
             refused(NEW, x -> x.worth(kind), OUTSIDE);
@@ -54,10 +55,31 @@ public final class WorthEdges extends Check {
         }));
         due(x, x.worth(kind), number);
         dueNothingTold(x, number, kind, 3);
-        if (kind == 3) due(x, x.row(number, 0, 1, 2, 3, 4), 1);
-        if (kind == 3) due(x, x.value(number, 7), 1);
-        if (kind == 4) due(x, x.rise(number, 10000), 1);
-        if (kind == 4) due(x, x.value(number, 7), 30000);
+        if (kind == 3) {
+            due(x, x.row(number, 2, 0, 0, 0, 0), 1);
+            due(x, x.value(number, 7), 0);
+        }
+        if (kind == 4) {
+            due(x, x.rise(number, 10000), 1);
+            due(x, x.value(number, 7), 30000);
+        }
+    }
+
+    /** The rows of a RANK are 0 anew for each of ten THINGS, and in each of their places. */
+    private static void dueNoOldRows() {
+        for (int t = 0; t < 10; t++) {
+            for (int place = 0; place < 4; place++) {
+                Real x = new Real();
+                for (int turn = 0; turn < 2; turn++) {
+                    x.things(10);
+                    x.worth(3);
+                    if (turn == 0) x.row(0, t, place == 0 ? 9 : 0, place == 1 ? 9 : 0, place == 2 ? 9 : 0, place == 3 ? 9 : 0);
+                    int other = t == 0 ? 1 : 0;
+                    x.row(0, other, 0, 0, 0, 0);
+                    due(x, x.value(0, 1 << t | 1 << other), 1 - turn);
+                }
+            }
+        }
     }
 
     private static void sum() {

@@ -56,10 +56,11 @@ abstract class Check {
         if (unlike != null) fault(call + " changed something: " + unlike);
     }
 
-    /** Answers this and changes nothing, not CODE either: a twin of the object that is not asked is like it still. */
+    /** Answers this, now and again, and changes nothing, not CODE either: a twin that is not asked is like it still. */
     static void asks(Scenes.Scene scene, Call call, long want) {
         for (boolean first : new boolean[] {true, false}) {
             Real x = spoiled(scene, first), twin = spoiled(scene, first);
+            due(x, call.on(x), want);
             due(x, call.on(x), want);
             dueUnchanged(x, twin, true);
         }
@@ -111,9 +112,16 @@ abstract class Check {
         };
     }
 
+    /** A SHEET that is there to show whether it stays as it is. */
+    private static void layOutSheet(Bench x) {
+        x.sheet(3, 2, 2);
+        x.put(3, 2, 1, 66);
+    }
+
     /** WORTH 0 alone, TOLD, with these VALUES of the SETS 1, 2, .. */
     static Scenes.Scene told(int things, int... values) {
         return x -> {
+            layOutSheet(x);
             x.things(things);
             x.worth(0);
             for (int i = 0; i < values.length; i++) x.tell(0, i + 1, values[i]);
@@ -128,6 +136,7 @@ abstract class Check {
     /** WORTH 0 is a SUM of these PRICES alone. */
     static Scenes.Scene priced(int... prices) {
         return x -> {
+            layOutSheet(x);
             x.things(prices.length);
             x.sum();
             for (int t = 0; t < prices.length; t++) x.price(0, t, prices[t]);
