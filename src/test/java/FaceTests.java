@@ -73,6 +73,21 @@ public final class FaceTests {
         if (FallingGains.class.getDeclaredClasses().length > 12) fault("more than twelve classes");
     }
 
+    /** No state beside that of the objects, and nothing larger than LANGUAGE.md lets it be. */
+    private static void sizes(Class<?> one) {
+        int fields = 0;
+        for (Field field : one.getDeclaredFields()) {
+            boolean constant = field.getType().isPrimitive() || field.getType() == String.class;
+            if (!Modifier.isStatic(field.getModifiers())) fields++;
+            else if (!Modifier.isFinal(field.getModifiers()) || !constant) fault("static state: " + field);
+        }
+        if (fields > 20) fault("more than twenty fields: " + one);
+        for (Method method : one.getDeclaredMethods()) {
+            if (method.getParameterCount() > 7) fault("more than seven parameters: " + method);
+        }
+        for (Class<?> inside : one.getDeclaredClasses()) sizes(inside);
+    }
+
     private static void source(Path file) throws IOException {
         String text = Files.readString(file);
         String code = text.replaceAll("(?s)/\\*.*?\\*/", "").replaceAll("//[^\n]*", "");
@@ -85,6 +100,7 @@ public final class FaceTests {
     public static void main(String[] args) throws IOException {
         face();
         namesInside();
+        sizes(FallingGains.class);
         if (args.length == 0) fault("the project's folder is not told");
         else source(Path.of(args[0], "src", "main", "java", "FallingGains.java"));
         System.out.println("the face: " + wrong + " faults");

@@ -16,6 +16,7 @@ public final class SheetEdges extends Check {
 
     private static void newObject() {
         says(1, "No THINGS, no WORTHS, no SHEETS; CODE 0.");
+        Real other = Scenes.real(Scenes::held);
         Real x = new Real();
         due(x, x.code(), 0);
         due(x, x.count(0, 0), 0);
@@ -33,6 +34,9 @@ public final class SheetEdges extends Check {
         due(x, x.worth(0), 0);
         due(x, x.value(0, 0), 0);
         due(x, x.value(0, 1), UNKNOWN);
+        due(other, other.count(1, 0), 12);
+        due(other, other.value(0, 7), 7);
+        due(other, other.tear(0), 1);
         alike(NEW, then(NEW, y -> y.things(0)));
     }
 

@@ -58,7 +58,7 @@ final class Picture {
             see("place of a sheet", x.code());
         }
         for (int form = 0; form < 3; form++) {
-            x.put(s, form, -1, 0);
+            x.put(s, form, 0, 1);
             see("form of a sheet", x.code());
         }
     }
