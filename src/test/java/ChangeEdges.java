@@ -447,6 +447,7 @@ public final class ChangeEdges extends Check {
         }
         for (int factor : numbers(1, 2, 100)) {
             refused(Scenes::large, x -> x.add(5, 4, factor), LARGE);
+            refused(Scenes::largeBehindFree, x -> x.add(6, 5, factor), LARGE);
             refused(Scenes::largeAndFull, x -> x.add(5, 4, factor), FULL);
             refused(Scenes::large, x -> x.add(3, 2, factor), NOT);
         }
@@ -493,6 +494,7 @@ public final class ChangeEdges extends Check {
             refused(Scenes::large, x -> x.price(4, 1, v), OUTSIDE);
         }
         refused(Scenes::held, x -> x.price(5, 0, 5), NOT);
+        refused(Scenes::fullAndHeld, x -> x.price(5, 0, 5), NOT);
         largePrice();
         says(20, "CODE 5.");
         dueOtherKinds(5, (x, w) -> x.price(w, 0, 5));
@@ -508,6 +510,7 @@ public final class ChangeEdges extends Check {
         for (int v : numbers(1, 100000)) {
             refused(Scenes::large, x -> x.price(4, 0, v), LARGE);
             refused(Scenes::large, x -> x.price(4, 1, -v), LARGE);
+            refused(Scenes::largeBehindFree, x -> x.price(5, 0, v), LARGE);
             refused(Scenes::large, x -> x.price(3, 0, v), NOT);
             refused(Scenes::large, x -> x.price(4, 2, v), UNKNOWN);
             Real x = taken(Scenes::large, y -> y.price(4, 0, -v), 0);

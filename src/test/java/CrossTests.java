@@ -36,6 +36,7 @@ public final class CrossTests {
         SCENES.put("full and held", Scenes::fullAndHeld);
         SCENES.put("large", Scenes::large);
         SCENES.put("large and full", Scenes::largeAndFull);
+        SCENES.put("large behind free", Scenes::largeBehindFree);
         SCENES.put("ten things", x -> {
             Scenes.free(x, 10);
             x.sum();

@@ -117,6 +117,7 @@ public final class ShareEdges extends Check {
         largeBottom();
         largeShare(1);
         largeShare(-1);
+        refused(Scenes::largeBehindFree, x -> x.mix(5, 2, 2), LARGE);
         refused(Scenes::large, x -> x.mix(6, 2, 2), UNKNOWN);
         refused(Scenes::large, x -> x.mix(0, 1001, 2), OUTSIDE);
         refused(Scenes::large, x -> x.mix(0, 2, -1), OUTSIDE);

@@ -161,6 +161,7 @@ public final class WorthEdges extends Check {
         for (int w : numbers(-1, 12)) refused(Scenes::full, x -> x.beyond(w, 0), UNKNOWN);
         for (int set : numbers(-1, 8)) refused(Scenes::full, x -> x.beyond(0, set), UNKNOWN);
         refused(Scenes::large, x -> x.beyond(4, 2), LARGE);
+        refused(Scenes::largeBehindFree, x -> x.beyond(5, 2), LARGE);
         refused(Scenes::large, x -> x.beyond(4, 4), UNKNOWN);
         refused(Scenes::largeAndFull, x -> x.beyond(4, 2), FULL);
         refused(Scenes::largeAndFull, x -> x.beyond(4, 4), UNKNOWN);

@@ -1,7 +1,7 @@
 /**
- * Objects in the midst of their work, so that what a call changes can be seen. In all of them but large() the WORTHS 0 to 5
- * are of the KIND of their number, 6 is TOLD, 7 a PART of it and 8 BEYOND it. A call here that is refused, as there are too
- * few THINGS for it, does no harm.
+ * Objects in the midst of their work, so that what a call changes can be seen. In all of them but the large ones the WORTHS
+ * 0 to 5 are of the KIND of their number, 6 is TOLD, 7 a PART of it and 8 BEYOND it. A call here that is refused, as there
+ * are too few THINGS for it, does no harm.
  */
 final class Scenes {
     private Scenes() { }
@@ -133,25 +133,38 @@ final class Scenes {
     static void large(Bench x) {
         x.things(2);
         layOutSheets(x, 2);
+        pileUp(x);
+    }
+
+    /** As large(), but WORTH 0 is of no other one, and not HELD; so the numbers of the others are one more each. */
+    static void largeBehindFree(Bench x) {
+        x.things(2);
+        layOutSheets(x, 2);
         x.worth(0);
-        x.tell(0, 1, 1000000);
-        x.tell(0, 2, -1000000);
-        x.tell(0, 3, 1);
+        x.tell(0, 3, 5);
+        pileUp(x);
+    }
+
+    private static void pileUp(Bench x) {
+        int first = x.worth(0);
+        x.tell(first, 1, 1000000);
+        x.tell(first, 2, -1000000);
+        x.tell(first, 3, 1);
         x.sum();
-        for (int i = 0; i < 4; i++) x.add(1, 0, 100);
+        for (int i = 0; i < 4; i++) x.add(first + 1, first, 100);
         x.sum();
-        for (int i = 0; i < 2; i++) x.add(2, 1, 100);
+        for (int i = 0; i < 2; i++) x.add(first + 2, first + 1, 100);
         x.sum();
-        x.add(3, 2, 12);
-        x.add(3, 1, 100);
+        x.add(first + 3, first + 2, 12);
+        x.add(first + 3, first + 1, 100);
         x.sum();
-        x.add(4, 3, 1);
+        x.add(first + 4, first + 3, 1);
         x.sum();
-        x.price(5, 0, 1);
-        x.price(5, 1, -1);
+        x.price(first + 5, 0, 1);
+        x.price(first + 5, 1, -1);
         x.share(0, 1000000000000L);
         x.share(1, -1000000000000L);
-        x.mix(0, 1000, 0);
+        x.mix(first, 1000, 0);
     }
 
     /** As large(), with no room for more WORTHS, nor for more of them in SUM 5. */
