@@ -6,29 +6,26 @@ import java.lang.reflect.Modifier;
 import java.nio.file.Files;
 import java.nio.file.Path;
 import java.util.HashSet;
+import java.util.Map;
 import java.util.Set;
+import java.util.TreeMap;
 import java.util.TreeSet;
 import java.util.regex.Matcher;
 import java.util.regex.Pattern;
 
 /** The public face is the document's and no more, and the source has nothing that LANGUAGE.md rules out by its look. */
 public final class FaceTests {
-    private static final String[] METHODS = {
-        "int things(int)", "int sheet(int,int,int)", "int tear(int)", "long put(int,int,int,long)", "long at(int,int)",
-        "int worth(int)", "int sum()", "int part(int,int)", "int beyond(int,int)", "int kind(int)", "int count(int,int)",
-        "int tell(int,int,int)", "int read(int,int)", "int line(int,int,int,int)", "int spot(int,int,int)",
-        "int row(int,int,int,int,int,int)", "int rise(int,int)", "int add(int,int,int)", "int price(int,int,int)",
-        "int code()", "long value(int,int)", "long adds(int,int,int)", "int falls(int)", "int why(int,int)",
-        "long least(int)", "int all(int,int)", "int one(int,int)", "long level(int,int)", "int bends(int)",
-        "long bend(int,int,int)", "int order(int,int)", "int corner(int)", "int mix(int,int,int)", "long share(int,long)",
-        "long shareOf(int)", "int in(int)", "int proves(int)", "int greed(int,int)", "long best(int,int)",
-    };
-    private static final Set<String> CONSTANTS = Set.of("NONE", "UNKNOWN", "OUTSIDE", "NOT", "FULL", "LARGE");
+    private static final Pattern FACE = Pattern.compile("## The public face\\s+```java\n(.*?)```", Pattern.DOTALL);
+    private static final Pattern CONSTANT = Pattern.compile("([A-Z]+) = (-?\\d+)");
+    private static final Pattern METHOD = Pattern.compile("public (\\w+) (\\w+)\\((.*)\\);");
+    private static final int CONSTANTS_IN_ALL = 6, METHODS_IN_ALL = 39;
     private static final String[] RULED_OUT = {
         "\\bthrow\\b", "\\bthrows\\b", "\\btry\\b", "\\bcatch\\b", "\\bsynchronized\\b", "\\bassert\\b", "->", "::",
         "\\w+Exact\\b", "\\bpackage\\b", "\\bimport\\b", "\\bSystem\\.(?!arraycopy)", "\\bstatic\\s*\\{", "\\bThread\\b",
         "\\bRandom\\b", "\\bprotected\\b", "\\bfinalize\\b", "\\bhashCode\\b", "\\btoString\\b",
     };
+    private static final Map<String, Integer> CONSTANTS = new TreeMap<>();
+    private static final Set<String> METHODS = new TreeSet<>();
     private static int wrong;
 
     private static void fault(String text) {
@@ -36,26 +33,55 @@ public final class FaceTests {
         System.out.println(text);
     }
 
-    private static void face() {
-        if (!Modifier.isPublic(FallingGains.class.getModifiers()) || !Modifier.isFinal(FallingGains.class.getModifiers())) {
-            fault("the class is not public and final");
+    /** The face as the document writes it; of the parameters the types alone, as their names are free. */
+    private static void readFace(Path document) throws IOException {
+        Matcher face = FACE.matcher(Files.readString(document));
+        if (!face.find()) {
+            fault("the document's face is not found");
+            return;
         }
-        Set<String> missing = new TreeSet<>(Set.of(METHODS));
+        Matcher constant = CONSTANT.matcher(face.group(1));
+        while (constant.find()) CONSTANTS.put(constant.group(1), Integer.valueOf(constant.group(2)));
+        Matcher method = METHOD.matcher(face.group(1));
+        while (method.find()) {
+            String types = method.group(3).replaceAll(" \\w+(, |$)", "$1").replace(" ", "");
+            METHODS.add(method.group(1) + " " + method.group(2) + "(" + types + ")");
+        }
+        if (CONSTANTS.size() != CONSTANTS_IN_ALL || METHODS.size() != METHODS_IN_ALL) fault("the document's face is not understood");
+    }
+
+    private static void face() throws IllegalAccessException {
+        if (FallingGains.class.getModifiers() != (Modifier.PUBLIC | Modifier.FINAL)) fault("the class is not public and final alone");
+        if (FallingGains.class.getSuperclass() != Object.class || FallingGains.class.getInterfaces().length != 0) {
+            fault("the class is of another one");
+        }
+        methods();
+        constants();
+        Constructor<?>[] made = FallingGains.class.getDeclaredConstructors();
+        if (made.length != 1 || !Modifier.isPublic(made[0].getModifiers()) || made[0].getParameterCount() != 0) {
+            fault("the constructor is not the document's alone");
+        }
+    }
+
+    private static void methods() {
+        Set<String> missing = new TreeSet<>(METHODS);
         for (Method method : FallingGains.class.getDeclaredMethods()) {
             if (Modifier.isPrivate(method.getModifiers())) continue;
             String text = method.toString().replace("public ", "").replace("FallingGains.", "");
             if (!missing.remove(text)) fault("not of the face: " + method);
         }
         for (String text : missing) fault("not there: " + text);
+    }
+
+    private static void constants() throws IllegalAccessException {
+        Set<String> missing = new TreeSet<>(CONSTANTS.keySet());
         for (Field field : FallingGains.class.getDeclaredFields()) {
-            int is = field.getModifiers();
-            boolean constant = Modifier.isPublic(is) && Modifier.isStatic(is) && Modifier.isFinal(is) && field.getType() == int.class;
-            if (CONSTANTS.contains(field.getName()) != constant || !constant && !Modifier.isPrivate(is)) fault("field: " + field);
+            if (Modifier.isPrivate(field.getModifiers())) continue;
+            boolean constant = field.toString().equals("public static final int FallingGains." + field.getName());
+            if (!constant || !missing.remove(field.getName())) fault("not of the face: " + field);
+            else if (field.getInt(null) != CONSTANTS.get(field.getName())) fault("not its number: " + field);
         }
-        Constructor<?>[] made = FallingGains.class.getDeclaredConstructors();
-        if (made.length != 1 || !Modifier.isPublic(made[0].getModifiers()) || made[0].getParameterCount() != 0) {
-            fault("the constructor is not the document's alone");
-        }
+        for (String name : missing) fault("not there: " + name);
     }
 
     private static void namesInside() {
@@ -65,7 +91,9 @@ public final class FaceTests {
             if (Modifier.isPrivate(method.getModifiers()) && taken.contains(method.getName())) fault("bears a public name: " + method);
         }
         for (Class<?> inside : FallingGains.class.getDeclaredClasses()) {
-            if (!Modifier.isStatic(inside.getModifiers())) fault("not static: " + inside);
+            int is = inside.getModifiers();
+            if (!Modifier.isStatic(is)) fault("not static: " + inside);
+            if (Modifier.isPublic(is) || Modifier.isProtected(is)) fault("not of the face: " + inside);
             for (Method method : inside.getDeclaredMethods()) {
                 if (taken.contains(method.getName())) fault("bears a public name: " + method);
             }
@@ -97,13 +125,17 @@ public final class FaceTests {
         }
     }
 
-    public static void main(String[] args) throws IOException {
-        face();
-        namesInside();
-        sizes(FallingGains.class);
-        if (args.length == 0) fault("the project's folder is not told");
-        else source(Path.of(args[0], "src", "main", "java", "FallingGains.java"));
-        System.out.println("the face: " + wrong + " faults");
+    public static void main(String[] args) throws IOException, IllegalAccessException {
+        if (args.length == 0) {
+            fault("the project's folder is not told");
+        } else {
+            readFace(Path.of(args[0], "..", "shared", "DOC.md"));
+            face();
+            namesInside();
+            sizes(FallingGains.class);
+            source(Path.of(args[0], "src", "main", "java", "FallingGains.java"));
+        }
+        System.out.println("the face: " + METHODS.size() + " methods, " + wrong + " faults");
         if (wrong != 0) System.exit(1);
     }
 }
